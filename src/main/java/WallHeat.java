@@ -355,7 +355,7 @@ public final class WallHeat {
     }
 
     private static void copyRow(int[] from, int[] to) {
-        for (int i = 0; i < to.length; i++) to[i] = at(from, i);
+        for (int i = 0; to != null && i < to.length; i++) to[i] = at(from, i);
     }
 
     private static int total(int[] row, int many) {

@@ -78,6 +78,17 @@ final class TextTest {
         fault("walls 4", 0);
         fault("wal 4", 0);
         fault("4 wall", 0);
+        fault("xall 4", 0);
+        fault("xtuff a 1 1", 0);
+        fault("xir 1 1", 0);
+        fault("stuff a 1 1;xayer a 1", 12);
+        fault("stuff a 1 1;layer a 1;xeat 0 1", 22);
+        fault("stuff az 1 1;layer az 1", WallHeat.NONE);
+        fault("stuff a` 1 1", 7);
+        fault("stuff a{ 1 1", 7);
+        fault("air 09 90", WallHeat.NONE);
+        fault("air 0/ 0", 5);
+        fault("air 0: 0", 5);
         fault("wall\t4", 4);
         fault("wall\u00e94", 4);
         fault("air 1", 5);
