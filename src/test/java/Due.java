@@ -1,11 +1,27 @@
 /** Tells every call whose answer is not the one that is due. */
 final class Due {
+    private static final long MOST_MILLIS = 300_000;
+
     private final String name;
     private int wrong = 0;
     private int all = 0;
 
     Due(String name) {
         this.name = name;
+        Thread watch = new Thread(this::endIfStuck);
+        watch.setDaemon(true);
+        watch.start();
+    }
+
+    /** A call that does not end is a fault too, and must not hold up all other tests. */
+    private void endIfStuck() {
+        try {
+            Thread.sleep(MOST_MILLIS);
+        } catch (InterruptedException e) {
+            return;
+        }
+        System.out.println(name + ": did not end");
+        Runtime.getRuntime().halt(1);
     }
 
     void is(String call, long got, long want) {

@@ -265,6 +265,10 @@ final class PageEdgeTest {
         due.is("of a KEY put and struck", x.common(1, 0), 6);
         x.page(1);
         due.is("of a new one", x.common(1, 0), 0);
+        // letter 0, number 0, value 0 is a KEY like any other, and no KEY is not that one
+        x.put(1, 0, 0, 0);
+        due.is("of a KEY of 0 alone", x.common(1, 1), 1);
+        due.is("of nothing and a KEY of 0", x.common(2, 1), 0);
         due.is("with the third", x.common(2, 1), 0);
         due.is("of the last and itself", x.common(2, 2), 0);
     }

@@ -25,6 +25,7 @@ final class TextEdgeTest {
         airsAreUpTo999();
         paceIsOneTo999();
         lettersAre200AtMost();
+        lettersErasedAreNotRead();
         lettersAreNumbers0To255();
         clausesAre24AtMost();
         clausesAreAtLeastOne();
@@ -301,6 +302,35 @@ final class TextEdgeTest {
         due.is("erase() of the full text", x.erase(), 200);
         due.is("letters behind erase()", x.count(15), 0);
         due.is("letter 1 behind erase()", x.write(0), 1);
+    }
+
+    // "THE TEXT is empty": what stood there ahead of erase() or wall() is not read on behind a shorter text
+    private static void lettersErasedAreNotRead() {
+        WallHeat x = new WallHeat();
+        Due.write(x, "wall 77 ;stuff abc 1 1");
+        x.erase();
+        Due.write(x, "wall 7");
+        due.is("fault() behind erase()", x.fault(), NONE);
+        due.is("wall() behind erase()", x.wall(), 1);
+        due.is("the shorter number", x.count(4), 7);
+        Due.write(x, "air 123 4567");
+        x.erase();
+        Due.write(x, "air 123 4");
+        due.is("wall() of a shorter number", x.wall(), 1);
+        due.is("the shorter number at the end", x.count(3), 4);
+        Due.write(x, "stuff ab 1 11");
+        due.is("wall()", x.wall(), 1);
+        Due.write(x, "stuff cd 1 1");
+        due.is("wall() behind wall()", x.wall(), 1);
+        due.is("the shorter number behind wall()", x.stuff(1, 1), 1);
+        Due.write(x, "abc");
+        x.erase();
+        Due.write(x, "ab");
+        due.is("find() behind erase()", x.find(), 0);
+        x.erase();
+        due.is("find() of nothing", x.find(), NONE);
+        Due.write(x, "wall");
+        due.is("fault() of the word alone", x.fault(), 4);
     }
 
     // "A letter (its number, 0 .. 255)"
