@@ -4,6 +4,8 @@ import java.lang.reflect.Method;
 import java.lang.reflect.Modifier;
 import java.nio.file.Files;
 import java.nio.file.Path;
+import java.util.HashSet;
+import java.util.List;
 import java.util.Set;
 import java.util.TreeSet;
 import java.util.regex.Matcher;
@@ -27,7 +29,14 @@ final class FaceTest {
         theFields();
         theConstants();
         theClassesInside();
-        theSource(Files.readString(Path.of("src/main/java/WallHeat.java")));
+        theTypes();
+        String source = Files.readString(Path.of("src/main/java/WallHeat.java"));
+        due.isTrue("signs are 1 to 127", source.chars().allMatch(sign -> sign >= 1 && sign <= 127));
+        String code = source.replaceAll("(?s)/\\*.*?\\*/", " ").replaceAll("//[^\n]*", " ");
+        theSource(code);
+        theLibrary(code);
+        whatTheMachineCouldThrow(code);
+        theLengths(source);
         due.end();
     }
 
@@ -89,17 +98,77 @@ final class FaceTest {
         }
     }
 
-    private static void theSource(String source) {
-        String code = source.replaceAll("(?s)/\\*.*?\\*/", " ").replaceAll("//[^\n]*", " ");
+    /** Rules 3 and 5. */
+    private static void theTypes() {
+        Set<Class<?>> own = new HashSet<>(List.of(WallHeat.class.getDeclaredClasses()));
+        for (Class<?> one : WallHeat.class.getDeclaredClasses()) {
+            for (Field field : one.getDeclaredFields()) {
+                due.isTrue(field + " is of a type that may stand", isType(field.getType(), own));
+                due.isTrue(field + " is not static", !Modifier.isStatic(field.getModifiers()));
+            }
+            for (Method method : one.getDeclaredMethods()) due.isTrue(method + " takes at most seven", method.getParameterCount() <= 7);
+        }
+        for (Field field : WallHeat.class.getDeclaredFields()) {
+            boolean constant = Modifier.isStatic(field.getModifiers());
+            due.isTrue(field + " is of a type that may stand", constant ? field.getType().isPrimitive() : isType(field.getType(), own));
+        }
+    }
+
+    private static boolean isType(Class<?> type, Set<Class<?>> own) {
+        return Set.of(int.class, long.class, boolean.class, int[].class).contains(type) || own.contains(type)
+                || type.isArray() && own.contains(type.getComponentType());
+    }
+
+    private static Set<String> all(String pattern, String code) {
+        Set<String> found = new TreeSet<>();
+        Matcher matcher = Pattern.compile(pattern).matcher(code);
+        while (matcher.find()) found.add(matcher.group());
+        return found;
+    }
+
+    private static void areAmong(String what, Set<String> found, String... may) {
+        due.isTrue(what + ": " + found, Set.of(may).containsAll(found));
+    }
+
+    private static void theSource(String code) {
         String[] words = {"throw", "throws", "try", "catch", "finally", "synchronized", "assert", "import", "package", "volatile",
             "equals", "hashCode", "toString", "System", "Thread", "Random", "Object", "Exception", "double", "float", "native"};
         for (String word : words) due.isTrue("no " + word, !Pattern.compile("\\b" + word + "\\b").matcher(code).find());
         for (String sign : new String[] {"->", "::", "Exact", "while (true)", "for (;;)", "@"}) due.isTrue("no " + sign, !code.contains(sign));
+    }
+
+    /** Rules 4, 10 and 12. */
+    private static void theLibrary(String code) {
+        areAmong("the library", all("\\b[A-Z][a-z]\\w*\\.\\w+", code), "Math.max", "Math.min", "Math.abs", "Integer.compare");
+        areAmong("what is made", all("\\bnew \\w+", code), "new int", "new Warmth", "new Wall", "new Text", "new Reader", "new Past", "new Book");
+        due.isTrue("objects are made in constructors alone", !code.contains("return new "));
+        areAmong("texts", all("[^\\s\"]*\"[^\"\n]*\"", code), "(takeWord(\"wall\"", "takeWord(\"stuff\"", "(takeWord(\"layer\"", "(takeWord(\"air\"", "takeWord(\"heat\"");
+    }
+
+    /** Rule 7: what could throw stands in few places, each behind a test. */
+    private static void whatTheMachineCouldThrow(String code) {
         // rows are read and changed in at(), set() and copyRow() alone, objects' rows behind a test of their bounds
-        Matcher index = Pattern.compile("\\w+\\[\\w[^\\]]*\\]").matcher(code.replaceAll("new \\w+\\[[^\\]]*\\]", ""));
-        Set<String> found = new TreeSet<>();
-        while (index.find()) found.add(index.group());
-        due.isTrue("indices: " + found, found.equals(Set.of("row[i]", "to[i]", "pages[page]", "pages[i]", "ring[i]", "stored[i]")));
-        due.isTrue("objects are made in constructors alone", !Pattern.compile("return new ").matcher(code).find());
+        Set<String> indices = all("\\w+\\[\\w[^\\]]*\\]", code.replaceAll("new \\w+\\[[^\\]]*\\]", ""));
+        due.isTrue("indices: " + indices, indices.equals(Set.of("row[i]", "to[i]", "pages[page]", "pages[i]", "ring[i]", "stored[i]")));
+        areAmong("lengths", all("new \\w+\\[[^\\]]*\\]", code), "new int[MOST_STUFFS * MOST_WORD]", "new int[MOST_STUFFS]", "new int[MOST_CELLS]",
+                "new int[MOST_CELLS + 1]", "new int[MOST_LETTERS]", "new int[MOST_KEPT]", "new int[MOST_KEYS]",
+                "new Warmth[MOST_UNDONE]", "new Warmth[MOST_KEPT]", "new Book[MOST_PAGES]");
+        areAmong("divisors", all("\\S+ [/%]=? ?\\S+", code), "above / below;", "big % small;", "1) % MOST_UNDONE;");
+        areAmong("casts", all("\\(\\w+\\) \\w+", code.replaceAll("\\b(if|for|while|switch) \\(", "")), "(int) lowest", "(int) cut", "(int) least");
+    }
+
+    /** Rule 11: some sixty lines a method. */
+    private static void theLengths(String source) {
+        int begun = 0;
+        int methods = 0;
+        String[] lines = source.split("\n");
+        for (int i = 0; i < lines.length; i++) {
+            if (lines[i].matches("(    |        )[a-zA-Z].*\\) \\{") && !lines[i].matches(" *(for|if|while|switch) .*")) {
+                begun = i;
+                methods++;
+            }
+            if (lines[i].matches("(    |        )\\}")) due.isTrue("the method that ends in line " + (i + 1) + " is short", i - begun <= 30);
+        }
+        due.isTrue("methods were found", methods > 60);
     }
 }

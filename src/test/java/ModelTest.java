@@ -8,6 +8,8 @@ final class ModelTest {
     private final PlainModel y = new PlainModel();
     private final int run;
     private long seed;
+    /** Calls yet to make: behind 512 nothing is promised. */
+    private int left = 512;
 
     private ModelTest(int run) {
         this.run = run;
@@ -42,15 +44,21 @@ final class ModelTest {
         }
     }
 
+    /** Both answers to one call. */
     private void is(String call, long got, long want) {
+        left--;
         due.is("run " + run + ": " + call, got, want);
     }
 
     private void go() {
-        int calls = 512;
-        if (any(8) > 0) calls -= tell(firstText());
-        while (calls > 0) calls -= any(30) == 0 ? tell(nextText()) : call();
+        if (any(8) > 0) tell(firstText());
+        // no call() makes more than 24 calls, and 16 are for the end
+        while (left >= 40) {
+            if (any(30) == 0) tell(nextText());
+            else call();
+        }
         for (int i = 0; i < 16; i++) is("count(" + i + ")", x.count(i), y.count(i));
+        due.isTrue("run " + run + ": 512 calls at the most", left >= 0);
     }
 
     // ---- texts
@@ -97,8 +105,8 @@ final class ModelTest {
         }
     }
 
-    /** How many calls that took. */
-    private int tell(String text) {
+    private void tell(String text) {
+        if (text.length() + 4 > left - 16) return;
         if (any(6) > 0) is("erase()", x.erase(), y.erase());
         for (int i = 0; i < text.length(); i++) {
             int letter = text.charAt(i);
@@ -107,12 +115,11 @@ final class ModelTest {
         is("fault() of \"" + text + "\"", x.fault(), y.fault());
         is("find()", x.find(), y.find());
         is("wall()", x.wall(), y.wall());
-        return text.length() + 4;
     }
 
     // ---- calls
 
-    private int call() {
+    private void call() {
         int cell = near(0, Math.max(0, y.count(1) - 1));
         int stuff = near(0, Math.max(0, y.count(0) - 1));
         switch (any(6)) {
@@ -123,7 +130,6 @@ final class ModelTest {
             case 4: callPages(); break;
             default: int what = near(0, 15); is("count(" + what + ")", x.count(what), y.count(what));
         }
-        return 1;
     }
 
     private void callTold(int cell, int stuff) {

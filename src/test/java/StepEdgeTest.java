@@ -368,9 +368,10 @@ final class StepEdgeTest {
     // "if a step is short enough no cell becomes warmer than the warmest ahead, nor colder than the coldest"
     private static void safeKeepsBetweenTheWarmestAndTheColdest() {
         for (String wall : WALLS) {
-            WallHeat x = Due.told(wall);
-            x.pace(x.count(5));
             for (int i = 0; i < 10; i++) {
+                WallHeat x = Due.told(wall);
+                x.pace(x.count(5));
+                if (i > 0) x.step(i);
                 long warmest = most(x, 1);
                 long coldest = most(x, -1);
                 due.is("a STEP that is short enough", x.step(1), 1);
